@@ -676,7 +676,7 @@ public final class GravelHasTheLastWord {
     }
 
     private static boolean isShelf(int s) {
-        return isWithin(s, 0, SHELF_COUNT - 1);
+        return s >= 0 && s < SHELF_COUNT;
     }
 
     private boolean isFeet(int feet) {
