@@ -347,13 +347,13 @@ public final class PromisesTest {
       "", "   ", ";", "rake;", "rake; ", "rake;;", "rake rake", "rak", "rakes", "Rake", "side", "side ", "side 1",
       "side 7", "side 004", "side x", "gravel 16 0", "gravel 0", "gravel 0;", "gravel 0 10", "side 2;gravel 4 0",
       "plank 16", "foot 6 0 1", "foot 0 10 1", "foot 0 0 0", "foot 0 0 100", "foot 0 0 1 1", "rain 10", "ear 0",
-      "ear 100", "rake,", "rake\n", "rain -1", "12", "rain9side3", "side 3 gravel", "rake;ear 5;plank 99"
+      "ear 100", "rake,", "rake\n", "rain -1", "12", "rain9side3", "side 3 gravel", "rake;ear 5;plank 99", "rakez", "rake`", "rake{"
     };
     int[] places = {
       0, 3, 0, 5, 6, 5, 5, 0, 0, 0, 4, 5, 5,
       5, 5, 5, 7, 8, 8, 9, 14,
       6, 5, 7, 9, 9, 11, 5, 4,
-      4, 4, 4, 5, 0, 5, 7, 17
+      4, 4, 4, 5, 0, 5, 7, 17, 0, 4, 4
     };
     for (int i = 0; i < texts.length; i++) {
       GravelHasTheLastWord x = fresh(15);
