@@ -247,7 +247,7 @@ public final class GravelHasTheLastWord {
     }
 
     public int raked(int feet, int i) {
-        if (!isFeet(feet) || !isWithin(i, NONE, MOST_CHANGED - 1)) {
+        if (!isFeet(feet) || i < NONE) {
             return refuse(BAD);
         }
         layHeard(feet, now.rain);
@@ -310,7 +310,7 @@ public final class GravelHasTheLastWord {
     }
 
     public int planks(int feet, int i) {
-        if (!isFeet(feet) || !isWithin(i, NONE, MOST_CHANGED - 1)) {
+        if (!isFeet(feet) || i < NONE) {
             return refuse(BAD);
         }
         layHeard(feet, now.rain);

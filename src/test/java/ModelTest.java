@@ -118,7 +118,7 @@ public final class ModelTest {
     }
     int fewest(int f, int i, int value, boolean wanted) {
       badFeet(f);
-      bad(i < -1 || i > 1);
+      bad(i < -1);
       int[] cells = fewestCells(f, value, wanted, all());
       if (i == -1) return cells == null ? -1 : cells.length;
       stuck(cells == null || i >= cells.length);

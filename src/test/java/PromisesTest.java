@@ -480,6 +480,7 @@ public final class PromisesTest {
     due("two", x.raked(0, NONE), 2);
     due("the first", x.raked(0, 0), 0);
     due("the second", x.raked(0, 1), 1);
+    due("no third", x.raked(0, 2), STUCK);
     x.gravel(2, 1);
     due("two, elsewhere", x.raked(0, NONE), 2);
     due("the first", x.raked(0, 0), 3);
@@ -493,8 +494,11 @@ public final class PromisesTest {
     due("not so many", x.raked(0, 0), STUCK);
     x.ask(0, 9);
     due("the RAIN drowns all", x.raked(0, NONE), NONE);
-    due("a third", x.raked(0, 2), BAD);
+    due("a third of two that aren't enough", x.raked(0, 2), STUCK);
+    due("the most that i can be", x.raked(0, Integer.MAX_VALUE), STUCK);
     due("i -2", x.raked(0, -2), BAD);
+    due("the least that i can be", x.raked(0, Integer.MIN_VALUE), BAD);
+    due("BAD ahead of STUCK", x.raked(4, 2), BAD);
     due("FEET 4", x.raked(4, NONE), BAD);
   }
 
@@ -510,11 +514,15 @@ public final class PromisesTest {
     due("two", x.planks(0, NONE), 2);
     due("the first", x.planks(0, 0), 3);
     due("the second", x.planks(0, 1), 6);
+    due("no third", x.planks(0, 2), STUCK);
     x.ask(1, 1);
     due("two aren't enough", x.planks(0, NONE), NONE);
     due("not so many", x.planks(0, 0), STUCK);
-    due("a third", x.planks(0, 2), BAD);
+    due("a third of two that aren't enough", x.planks(0, 2), STUCK);
+    due("the most that i can be", x.planks(0, Integer.MAX_VALUE), STUCK);
     due("i -2", x.planks(0, -2), BAD);
+    due("the least that i can be", x.planks(0, Integer.MIN_VALUE), BAD);
+    due("BAD ahead of STUCK", x.planks(-1, 2), BAD);
     due("FEET -1", x.planks(-1, NONE), BAD);
   }
 
