@@ -164,6 +164,14 @@ abstract class Edges {
     }
   }
 
+  /** Eight FEET: seven CATS of a 0 and LIKELY 1, which are heard less, and as the last one those that are told. */
+  static GravelHasTheLastWord crowd(GravelHasTheLastWord x, int kind, int a, int likely) {
+    for (int f = 0; f < 7; f++) {
+      x.feet(CAT, 0, 1);
+    }
+    return feet(x, kind, a, likely);
+  }
+
   static GravelHasTheLastWord ears(GravelHasTheLastWord x, int rain, int ear) {
     x.ask(0, rain);
     x.ask(1, ear);

@@ -84,6 +84,10 @@ public final class DriveEdges extends Edges {
   @Of(promise = 10, says = "GRAVEL of a CELL 0 to 9")
   static void p10_gravel() {
     takes("GRAVEL", 0, 9, v -> fresh().gravel(15, v), 3);
+    GravelHasTheLastWord each = drive("0123 4567 8987 6543");
+    for (int cell = 0; cell < 16; cell++) {
+      due("what it was, CELL " + cell, each.gravel(cell, 9 - cell / 2), cell <= 9 ? cell : 18 - cell);
+    }
     for (int v = 0; v <= 9; v++) {
       GravelHasTheLastWord x = fresh();
       x.gravel(0, v);
@@ -231,6 +235,13 @@ public final class DriveEdges extends Edges {
         due("GRAVEL", x.cellOf(3, 0), gravel);
       }
     }
+  }
+
+  @Of(promise = 17, says = "Of a CELL: GRAVEL (0), WET (1). BAD.")
+  static void p17_everyCell() {
+    GravelHasTheLastWord x = ears(drive("0123 4567 8987 6543"), 2, 4);
+    dueAll("GRAVEL", cell -> x.cellOf(cell, 0), 0, 1, 2, 3, 4, 5, 6, 7, 8, 9, 8, 7, 6, 5, 4, 3);
+    dueAll("WET", cell -> x.cellOf(cell, 1), 0, 0, 0, 1, 2, 3, 4, 5, 6, 7, 6, 5, 4, 3, 2, 1);
   }
 
   @Of(promise = 17, says = "Of a CELL: GRAVEL (0), WET (1). BAD.")

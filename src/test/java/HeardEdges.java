@@ -113,6 +113,18 @@ public final class HeardEdges extends Edges {
   }
 
   @Of(promise = 23, says = "WHO by a ROW of what was heard STRAIGHT up a COLUMN (n elements)")
+  static void p23_elementsBehind() {
+    for (int n = 2; n <= 5; n++) {
+      GravelHasTheLastWord x = feet(evenly(n, 9), SOFT, 3, 1, CAT, 3, 1);
+      x.row(0, 2, 7);
+      for (int i = 0; i < 7; i++) {
+        x.set(0, i, i < n ? 9 : 3);
+      }
+      who(x, 0, 3, 0, 500, NONE);
+    }
+  }
+
+  @Of(promise = 23, says = "WHO by a ROW of what was heard STRAIGHT up a COLUMN (n elements)")
   static void p23_sorts() {
     GravelHasTheLastWord x = feet(evenly(2, 1), FOOT, 0, 1);
     for (int sort = 0; sort < 5; sort++) {
@@ -126,6 +138,16 @@ public final class HeardEdges extends Edges {
     due("a short isn't a byte", fill(x, 0, 1, 257, 1).who(0, 0, 0), 0);
     x.gravel(0, 2);
     due("2 is no boolean", fill(x, 0, 4, 2, 1).who(0, 0, 0), 0);
+  }
+
+  @Of(promise = 23, says = "WHO by the ROW in SHELF s up a COLUMN")
+  static void p23_lastShelfAndColumn() {
+    GravelHasTheLastWord x = feet(drive("919 919 913"), SOFT, 3, 5, CAT, 3, 9);
+    fill(x, 0, 2, 1, 1, 1);
+    fill(x, 7, 2, 9, 9, 0);
+    dueAll("who, what", what -> x.who(7, 2, what), 2, 1, 1000, 3);
+    dueAll("another COLUMN", what -> x.who(7, 0, what), 0, NONE, STUCK, NONE);
+    dueAll("another SHELF and COLUMN", what -> x.who(0, 1, what), 1, 0, 1000, 1);
   }
 
   @Of(promise = 23, says = "BAD SHELF, column, what")
@@ -175,6 +197,17 @@ public final class HeardEdges extends Edges {
     dueAll("by the CELL at the gate", y::apart, 0, 0, 2);
   }
 
+  @Of(promise = 24, says = "how many of the FEET sound otherwise than each other one there")
+  static void p24_loudestSteps() {
+    for (int n = 2; n <= 6; n++) {
+      GravelHasTheLastWord x = feet(evenly(n, 9), BOOT, 9, 1, SPUR, 9, 1);
+      due("BOOT and SPUR, SIDE " + n, x.apart(n - 1), 2);
+      due("confused", x.confused(0), 0);
+      x.feet(SPUR, 8, 1);
+      due("and a SPUR next to it", x.apart(0), 3);
+    }
+  }
+
   @Of(promise = 24, says = "BAD.")
   static void p24_columns() {
     for (int n = 2; n <= 6; n++) {
@@ -192,7 +225,26 @@ public final class HeardEdges extends Edges {
     due("the last", apart(drive("003 003 003")).telling(0), 2);
     due("of two the first", apart(drive("033 033 033")).telling(0), 1);
     due("most, not the first with some", feet(drive("19 11"), SOFT, 0, 1, SOFT, 1, 1, FOOT, 0, 1).telling(0), 1);
-    due("nothing to hear", apart(ears(evenly(2, 9), 9, 1)).telling(0), 0);
+    for (int n = 2; n <= 6; n++) {
+      due("no GRAVEL anywhere", apart(evenly(n, 0)).telling(0), 0);
+      due("nothing to hear", apart(ears(evenly(n, 9), 9, 1)).telling(0), 0);
+    }
+    GravelHasTheLastWord x = apart(drive("38 38"));
+    due("no RAIN", x.telling(0), 0);
+    x.ask(0, 3);
+    due("the first COLUMN in the RAIN", x.telling(0), 1);
+  }
+
+  @Of(promise = 25, says = "TELLING: the COLUMN on which most are APART")
+  static void p25_oneMore() {
+    GravelHasTheLastWord x = feet(drive("12 00"), SOFT, 0, 1, SOFT, 1, 1, SOFT, 2, 1, FOOT, 0, 1);
+    due("one", x.apart(0), 1);
+    due("one more", x.apart(1), 2);
+    due("TELLING", x.telling(0), 1);
+    GravelHasTheLastWord y = feet(drive("21 00"), SOFT, 0, 1, SOFT, 1, 1, SOFT, 2, 1, FOOT, 0, 1);
+    due("one less", y.telling(0), 0);
+    GravelHasTheLastWord z = feet(drive("012 000 000"), SOFT, 0, 1, SOFT, 1, 1, SOFT, 2, 1, FOOT, 0, 1);
+    due("none, one, two", z.telling(0), 2);
   }
 
   @Of(promise = 25, says = "TURN: the least RAIN (0 to 9) by which, on some COLUMN, all FEET are APART; NONE.")
@@ -205,6 +257,11 @@ public final class HeardEdges extends Edges {
     due("no GRAVEL anywhere", apart(evenly(6, 0)).telling(1), NONE);
     due("a CAT by less WET", feet(evenly(2, 9), SOFT, 3, 1, CAT, 3, 1).telling(1), 5);
     due("on the last COLUMN alone", feet(drive("998 998 998"), SOFT, 3, 1, CAT, 3, 1).telling(1), 4);
+    due("on the first COLUMN alone", feet(drive("988 988 988"), SOFT, 3, 1, CAT, 3, 1, FOOT, 9, 1).telling(1), 4);
+    due("on the first of two", apart(drive("10 10")).telling(1), 0);
+    due("on the last of two", apart(drive("01 01")).telling(1), 0);
+    due("not by what would be ahead of the first COLUMN", feet(drive("09 00"), BOOT, 0, 1, SPUR, 0, 1).telling(1), NONE);
+    due("nor behind the last", feet(drive("00 00"), FOOT, 0, 1, BOOT, 0, 1).telling(1), NONE);
     due("LAME by a half", feet(drive("00 22"), LAME, 0, 1, LAME, 1, 1).telling(1), 1);
     due("all but two", feet(evenly(2, 9), FOOT, 0, 1, SOFT, 5, 1, CAT, 5, 1, SOFT, 5, 1).telling(1), NONE);
   }
@@ -253,6 +310,14 @@ public final class HeardEdges extends Edges {
     as(feet(drive("213 321 231"), FOOT, 0, 1, FOOT, 0, 1), 0, 1, 0, 1, 0, 3, 6);
     as(feet(drive("233 323 232"), FOOT, 0, 1, FOOT, 0, 1), 0, 1, 0, 1, 0, 3, 6);
     as(feet(drive("322 233 223"), FOOT, 0, 1, FOOT, 0, 1), 0, 1, 2, 4, 1, 4, 8);
+  }
+
+  @Of(promise = 26, says = "AS: WAYS by which FEET x sound just as FEET y STRAIGHT up a COLUMN")
+  static void p26_allOfTheDrive() {
+    as(alike(drive("333333 333333 333333 333333 333333 333337")), 6, 7, 5, 96, 0, 7, 14, 21, 28, 35);
+    as(alike(drive("333337 333333 333333 333333 333333 333333")), 7, 6, 5, 96, 5, 10, 15, 20, 25, 30);
+    as(crowd(evenly(2, 5), SOFT, 0, 1), 7, 6, 1, 4, 0, 2);
+    due("the last of eight as another", crowd(evenly(2, 3), SOFT, 1, 1).as(7, 6, 1, NONE), 0);
   }
 
   @Of(promise = 26, says = "BAD: also the same FEET; STUCK: there is none.")
@@ -314,6 +379,18 @@ public final class HeardEdges extends Edges {
     two(fill(x, 0, 2, 1, 9), 0, 1, 6, 7);
     two(fill(x, 0, 2, 1, 2), 0, 1, 30, 1);
     two(fill(x, 0, 2, 8, 9), 0, 1, 6, 70);
+  }
+
+  @Of(promise = 27, says = "TWO by the ROW in SHELF s: how many (what 0), the first (1; NONE).")
+  static void p27_lastShelfAndColumns() {
+    GravelHasTheLastWord x = feet(drive("910 911 911"), FOOT, 0, 1, FOOT, 1, 1);
+    fill(x, 0, 2, 99, 99, 99);
+    fill(x, 7, 2, 2, 3, 3);
+    due("how many", x.two(7, 1, 2, 0), 1);
+    due("the first", x.two(7, 1, 2, 1), 10);
+    due("the other way", x.two(7, 2, 1, 1), 1);
+    due("other COLUMNS", x.two(7, 0, 2, 0), 0);
+    due("another SHELF", x.two(0, 1, 2, 1), NONE);
   }
 
   @Of(promise = 27, says = "BAD SHELF, columns, what, the same COLUMN")
@@ -395,6 +472,22 @@ public final class HeardEdges extends Edges {
     due("a long isn't cut", fill(foot("33 33"), 0, 3, 3, 4294967299L).meant(0, 0, 0, 0), 0);
   }
 
+  @Of(promise = 28, says = "MEANT by the ROW in SHELF s of FEET up a COLUMN")
+  static void p28_lastOfEight() {
+    GravelHasTheLastWord x = crowd(drive("933 933 933"), BOOT, 4, 1);
+    fill(x, 0, 2, 1, 1, 1);
+    fill(x, 7, 2, 7, 7, 7);
+    fill(x, 6, 2, 10, 10, 10);
+    due("KINDS", x.meant(7, 7, 2, 0), 1);
+    due("the least a", x.meant(6, 7, 2, 1), 2);
+    due("another COLUMN, KINDS", x.meant(7, 7, 0, 0), 0);
+    due("another COLUMN, a", x.meant(6, 7, 0, 1), NONE);
+    due("others of the FEET, KINDS", x.meant(7, 6, 2, 0), 0);
+    due("others of the FEET, a", x.meant(6, 6, 2, 1), NONE);
+    due("another SHELF, KINDS", x.meant(0, 7, 2, 0), 0);
+    due("another SHELF, a", x.meant(0, 7, 2, 1), NONE);
+  }
+
   @Of(promise = 28, says = "BAD SHELF, feet, column, what")
   static void p28_numbers() {
     takes("SHELF", 0, 7, s -> fill(foot("33 33"), Math.floorMod(s, 8), 2, 3, 3).meant(s, 0, 0, 0), 1);
@@ -471,6 +564,9 @@ public final class HeardEdges extends Edges {
       due("all in the RAIN", ears(feet(evenly(n, 9), SPUR, 9, 1), 9, 1).heardBy(0), 0);
     }
     due("the last CELL alone", foot("33 34").heardBy(0), 1);
+    GravelHasTheLastWord last = ears(crowd(evenly(2, 9), FOOT, 0, 1), 0, 9);
+    due("the last of eight", last.heardBy(7), 4);
+    due("another", last.heardBy(6), 0);
     due("the first CELL alone", foot("43 33").heardBy(0), 1);
     takesFeet((x, f) -> x.heardBy(f), 0);
     takesFeet((x, f) -> ears(x, 0, 3).heardBy(f), 16);
@@ -528,6 +624,22 @@ public final class HeardEdges extends Edges {
     due("not all of any COLUMN", feet(drive("393 939 393"), SOFT, 3, 1, CAT, 3, 1).confused(0), 0);
     due("on two COLUMNS two", feet(drive("10 02"), FOOT, 1, 1, LAME, 1, 1, BOOT, 0, 1, LAME, 4, 1).confused(0), 14);
     refusesFeet((x, f) -> x.confused(f));
+  }
+
+  @Of(promise = 38, says = "STRAIGHT up at least one COLUMN")
+  static void p38_columnsOfTheDriveAlone() {
+    due("what would be behind the last COLUMN", feet(drive("99 09"), LAME, 0, 1, SOFT, 1, 1).confused(0), 0);
+    due("what would be ahead of the first", feet(drive("00 99"), BOOT, 0, 1, SPUR, 0, 1).confused(0), 0);
+  }
+
+  @Of(promise = 38, says = "WET is GRAVEL less RAIN (0 at least)")
+  static void p38_inTheRain() {
+    GravelHasTheLastWord x = feet(drive("59 59"), SOFT, 3, 1, CAT, 3, 1);
+    due("no RAIN", x.confused(0), 2);
+    x.ask(0, 5);
+    due("on the first COLUMN nothing to hear", x.confused(0), 2);
+    GravelHasTheLastWord y = feet(evenly(2, 9), SOFT, 3, 1, CAT, 3, 1);
+    dueAll("RAIN", rain -> ears(y, rain, 4).confused(0), 2, 2, 2, 2, 2, 0, 0, 0, 0, 2);
   }
 
   // ---- 41: odds

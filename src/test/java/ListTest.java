@@ -95,7 +95,11 @@ public final class ListTest {
     if (args.length == 1 && args[0].equals("write")) {
       Files.write(LIST, list());
     }
-    quotes();
+    if (Files.exists(DOCUMENT)) {
+      quotes();
+    } else {
+      System.out.println("no document here: the quotes aren't looked at");
+    }
     need(Files.exists(LIST) && Files.readAllLines(LIST).equals(list()), LIST + " isn't as the tests tell it");
     System.out.println(wrong == 0 ? "the list is true" : wrong + " faults of the list");
     if (wrong != 0) System.exit(1);

@@ -548,6 +548,30 @@ public final class ShelfEdges extends Edges {
     due("WET 0", x.says(BOOT, BOOT), 0);
   }
 
+  @Of(promise = 8, says = "What the FEET in SHELF s, taken for some of a KIND, say: FOOT LIKELY")
+  static void p08_likely() {
+    int[] all = {1, 2, 98, 99};
+    for (int likely : all) {
+      for (int kind = 0; kind < 6; kind++) {
+        GravelHasTheLastWord x = feet(evenly(2, 9), CAT, 9, 50, kind, 9, likely);
+        x.show(7, 1);
+        due("LIKELY " + likely + " of KIND " + kind, x.says(7, FOOT), likely);
+      }
+    }
+  }
+
+  @Of(promise = 8, says = "What the FEET in SHELF s, taken for some of a KIND, say")
+  static void p08_lastOfEight() {
+    GravelHasTheLastWord x = crowd(evenly(6, 9), SPUR, 9, 77);
+    x.show(0, 6);
+    x.show(7, 7);
+    due("the last as a FOOT", x.says(7, FOOT), 77);
+    due("the last as a BOOT", x.says(7, BOOT), 37);
+    due("the last as a SPUR", x.says(7, SPUR), 37);
+    due("the last as a CAT", x.says(7, CAT), OTHER);
+    due("another as a CAT", x.says(0, CAT), 6);
+  }
+
   @Of(promise = 8, says = "BAD SHELF, KIND")
   static void p08_numbers() {
     takes("SHELF", 0, 7, s -> {

@@ -142,6 +142,22 @@ public final class TapeEdges extends Edges {
     fault("rain5x", 5);
   }
 
+  @Of(promise = 15, says = "the first TOKEN that can't stand there")
+  static void p15_everyLetter() {
+    String[] told = {"side 2", "gravel 0 0", "plank 0", "rake", "foot 0 0 1", "rain 0", "ear 1"};
+    for (String text : told) {
+      after(text, 1);
+      int size = (text + " ").indexOf(' ');
+      for (int i = 0; i < size; i++) {
+        fault(text.substring(0, i) + "q" + text.substring(i + 1), 0);
+        fault(text.substring(0, i) + text.substring(i + 1), 0);
+        fault(text.substring(0, i) + text.charAt(i) + text.substring(i), 0);
+        fault(text.substring(0, i) + Character.toUpperCase(text.charAt(i)) + text.substring(i + 1), 0);
+      }
+      fault(text.substring(0, size) + "s" + text.substring(size), 0);
+    }
+  }
+
   @Of(promise = 15, says = "a NUMBER that may not be, or has more than 2 digits")
   static void p15_digits() {
     due("one digit", after("ear 1", 1).status(3), 1);
@@ -325,7 +341,7 @@ public final class TapeEdges extends Edges {
     due("none of them", y.status(0), 0);
     GravelHasTheLastWord z = feet(fresh(), 0, 0, 1, 0, 0, 1, 0, 0, 1, 0, 0, 1, 0, 0, 1, 0, 0, 1, 0, 0, 1);
     due("the eighth", told(z, "foot 5 5 5"), 1);
-    due("FEET", z.feetOf(7, 1), 5);
+    dueAll("FEET", what -> z.feetOf(7, what), 5, 5, 5);
   }
 
   @Of(promise = 15, says = "a byte that begins none")

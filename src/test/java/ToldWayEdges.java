@@ -130,6 +130,15 @@ public final class ToldWayEdges extends Edges {
     due("each counted as what it is", x.status(12) * 100 + x.status(13) * 10 + x.status(14), 411);
   }
 
+  @Of(promise = 45, says = "by the first n elements (0 to 40) of the ROW in SHELF s")
+  static void p45_lastShelf() {
+    GravelHasTheLastWord x = evenly(2, 3);
+    fill(x, 0, 2, 3, 3, 3);
+    fill(x, 7, 2, 1, 2, 9);
+    due("the last SHELF", x.judge(7, 2), NONE);
+    due("the first", x.judge(0, 2), 0);
+  }
+
   // ---- 46: loud
 
   @Of(promise = 46, says = "LOUD: all CRUNCHES of it by FEET together")
@@ -160,7 +169,22 @@ public final class ToldWayEdges extends Edges {
     due("by EAR 3", x.loud(0, 3, 0, 1), 0);
     due("LAME by ROWS", ears(fill(feet(evenly(2, 3), LAME, 0, 1), 0, 2, 0, 2), 0, 1).loud(0, 2, 0, 1), 0);
     due("SPUR by ROWS", ears(fill(feet(evenly(2, 3), SPUR, 0, 1), 0, 2, 0, 2), 0, 7).loud(0, 2, 0, 1), 1);
+    due("elements behind", fill(foot("39 33"), 0, 2, 0, 2, 1).loud(0, 2, 0, 1), NONE);
+    due("the first CELL isn't behind", fill(foot("93 33"), 0, 2, 1, 2).loud(0, 2, 0, 1), NONE);
     due("no GRAVEL", ears(fill(feet(evenly(2, 0), SPUR, 9, 1), 0, 2, 0, 2), 0, 1).loud(0, 2, 0, 1), NONE);
+  }
+
+  @Of(promise = 46, says = "LOUD by FEET: all CRUNCHES (what 0), the first HEARD (1; NONE).")
+  static void p46_lastOfEight() {
+    GravelHasTheLastWord x = ears(crowd(drive("19 39"), FOOT, 0, 1), 0, 3);
+    fill(x, 0, 2, 1, 3);
+    fill(x, 7, 2, 0, 2);
+    due("the last, all", x.loud(7, 2, 7, 0), 4);
+    due("the last, the first HEARD", x.loud(7, 2, 7, 1), 1);
+    due("another SHELF, all", x.loud(0, 2, 7, 0), 18);
+    due("another SHELF, the first HEARD", x.loud(0, 2, 7, 1), 0);
+    due("others of the FEET, all", x.loud(7, 2, 6, 0), 0);
+    due("others of the FEET, the first HEARD", x.loud(7, 2, 6, 1), NONE);
   }
 
   @Of(promise = 46, says = "BAD SHELF, n, feet, what")
@@ -233,6 +257,17 @@ public final class ToldWayEdges extends Edges {
     GravelHasTheLastWord y = fill(ears(foot("99 99"), 9, 1), 0, 2, 0, 2);
     due("in the RAIN", y.done(0, 2, 0), 0);
     dueAll("GRAVEL, not WET", cell -> y.cellOf(cell, 0), 8, 9, 8, 9);
+  }
+
+  @Of(promise = 47, says = "It is gone in truth by FEET: all CRUNCHES (as it was ahead).")
+  static void p47_lastOfEight() {
+    GravelHasTheLastWord x = crowd(drive("19 39"), FOOT, 0, 1);
+    fill(x, 0, 2, 1, 3);
+    fill(x, 7, 2, 0, 2);
+    due("the last", x.done(7, 2, 7), 4);
+    dueAll("GRAVEL", cell -> x.cellOf(cell, 0), 0, 9, 2, 9);
+    due("others of the FEET", x.done(0, 2, 6), 12);
+    dueAll("GRAVEL", cell -> x.cellOf(cell, 0), 0, 8, 2, 8);
   }
 
   @Of(promise = 47, says = "BAD; OTHER; NOTHING; BAD; STUCK likewise.")

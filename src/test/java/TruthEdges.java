@@ -130,6 +130,13 @@ public final class TruthEdges extends Edges {
     due("two alike, the second comes", oneArrival(y, seedFor(10, 5, 2, 0)), 0);
   }
 
+  @Of(promise = 50, says = "WET is GRAVEL less RAIN (0 at least)")
+  static void p50_inTheRain() {
+    GravelHasTheLastWord x = feet(evenly(2, 9), SOFT, 3, 1, CAT, 3, 1);
+    int seed = seedFor(2, 1, 2, 0);
+    dueAll("the second comes, RAIN", rain -> oneArrival(ears(x, rain, 4), seed), 0, 0, 0, 0, 0, 1, 1, 1, 1, 0);
+  }
+
   @Of(promise = 50, says = "SEED (1 at first) becomes SEED times 1103515245, and 12345 (an int, wrapping)")
   static void p50_seed() {
     int[] seeds = {1, 0, -1, LEAST, MOST, 77};

@@ -100,6 +100,15 @@ public final class WayEdges extends Edges {
     takesFeet((x, f) -> x.quietest(f, 4), BAD);
   }
 
+  @Of(promise = 19, says = "FEET have numbers, 0 on, 8 at most")
+  static void p19_lastOfEight() {
+    GravelHasTheLastWord x = crowd(drive("12 21"), FOOT, 0, 1);
+    way("quietest of the last", i -> x.quietest(7, i), 2, 0, 3);
+    way("quietest of another", i -> x.quietest(6, i), 0, 0, 2);
+    GravelHasTheLastWord y = crowd(evenly(6, 9), SPUR, 9, 1);
+    way("quietest of the last", i -> y.quietest(7, i), 219, STRAIGHT_UP_SIX);
+  }
+
   // ---- 20: softest
 
   @Of(promise = 20, says = "SOFTEST: its greatest CRUNCH (i NONE), the i-th CELL. BAD.")
@@ -120,6 +129,9 @@ public final class WayEdges extends Edges {
     softest(foot("222 111 111"), 2, 0, 3, 6);
     softest(foot("111 111 555"), 5, 0, 3, 6);
     softest(foot("31 31"), 1, 1, 3);
+    softest(foot("11 21"), 1, 0, 3);
+    softest(foot("111 211 211"), 1, 0, 4, 7);
+    softest(foot("111 111 322"), 2, 0, 3, 7);
   }
 
   @Of(promise = 20, says = "the WAY whose greatest CRUNCH is least, of several the first")
@@ -136,6 +148,13 @@ public final class WayEdges extends Edges {
     takesFeet((x, f) -> x.softest(f, NONE), 3);
     takesFeet((x, f) -> x.softest(f, 3), 12);
     takesFeet((x, f) -> x.softest(f, 4), BAD);
+  }
+
+  @Of(promise = 20, says = "FEET have numbers, 0 on, 8 at most")
+  static void p20_lastOfEight() {
+    GravelHasTheLastWord x = crowd(drive("12 21"), FOOT, 0, 1);
+    way("softest of the last", i -> x.softest(7, i), 1, 0, 3);
+    way("softest of another", i -> x.softest(6, i), 0, 0, 2);
   }
 
   // ---- 21: unheard
@@ -193,6 +212,16 @@ public final class WayEdges extends Edges {
     takesFeet((x, f) -> x.unheard(f, NONE), 68);
     takesFeet((x, f) -> x.unheard(f, 3), 12);
     takesFeet((x, f) -> x.unheard(f, 4), BAD);
+  }
+
+  @Of(promise = 21, says = "FEET have numbers, 0 on, 8 at most")
+  static void p21_lastOfEight() {
+    GravelHasTheLastWord x = ears(crowd(drive("12 21"), FOOT, 0, 1), 0, 2);
+    way("unheard, the last", i -> x.unheard(7, i), 1, 0, 3);
+    way("unheard, another", i -> x.unheard(6, i), 4, 0, 2);
+    x.ask(1, 1);
+    due("none of the last", x.unheard(7, 0), STUCK);
+    due("some of another", x.unheard(6, 1), 2);
   }
 
   // ---- 22: raked
@@ -255,6 +284,16 @@ public final class WayEdges extends Edges {
     takesFeet((x, f) -> x.raked(f, -2), BAD);
   }
 
+  @Of(promise = 22, says = "FEET have numbers, 0 on, 8 at most")
+  static void p22_lastOfEight() {
+    GravelHasTheLastWord x = ears(crowd(drive("33 33"), FOOT, 0, 1), 0, 9);
+    found("raked, the last", i -> x.raked(7, i), 2, 0, 1);
+    found("raked, another", i -> x.raked(6, i), NONE);
+    GravelHasTheLastWord y = ears(crowd(drive("12 21"), FOOT, 0, 1), 0, 2);
+    found("raked, the last", i -> y.raked(7, i), 1, 0);
+    found("raked, another", i -> y.raked(6, i), 2, 0, 1);
+  }
+
   // ---- 29: loudest
 
   @Of(promise = 29, says = "The WAY whose CRUNCHES together are most, of several the first by rows: all CRUNCHES (i NONE)")
@@ -284,6 +323,13 @@ public final class WayEdges extends Edges {
     takesFeet((x, f) -> x.loudest(f, NONE), 12);
     takesFeet((x, f) -> x.loudest(f, 3), 12);
     takesFeet((x, f) -> x.loudest(f, 4), BAD);
+  }
+
+  @Of(promise = 29, says = "FEET have numbers, 0 on, 8 at most")
+  static void p29_lastOfEight() {
+    GravelHasTheLastWord x = crowd(drive("21 12"), FOOT, 0, 1);
+    way("loudest of the last", i -> x.loudest(7, i), 4, 0, 3);
+    way("loudest of another", i -> x.loudest(6, i), 0, 0, 2);
   }
 
   // ---- 30 and 31: ways, through
@@ -346,6 +392,13 @@ public final class WayEdges extends Edges {
     }
   }
 
+  @Of(promise = 32, says = "FEET have numbers, 0 on, 8 at most")
+  static void p32_lastOfEight() {
+    GravelHasTheLastWord x = ears(crowd(drive("99 99"), FOOT, 0, 1), 0, 5);
+    due("dry, the last", x.dry(7), 5);
+    due("dry, another", x.dry(6), 2);
+  }
+
   @Of(promise = 32, says = "BAD.")
   static void p32_feet() {
     takesFeet((x, f) -> x.dry(f), 0);
@@ -364,6 +417,13 @@ public final class WayEdges extends Edges {
     due("all in the RAIN", ears(loudestOfAll(), 9, 1).mean(0), 0);
     due("96 by 950", foot("100000 000000 000000 000000 000000 000000").mean(0), 101);
     due("LAME", feet(evenly(2, 3), LAME, 0, 1).mean(0), 4000);
+  }
+
+  @Of(promise = 33, says = "FEET have numbers, 0 on, 8 at most")
+  static void p33_lastOfEight() {
+    GravelHasTheLastWord x = crowd(drive("99 99"), FOOT, 0, 1);
+    due("mean of the last", x.mean(7), 18000);
+    due("mean of another", x.mean(6), 12000);
   }
 
   @Of(promise = 33, says = "BAD.")
@@ -406,6 +466,8 @@ public final class WayEdges extends Edges {
     planks(foot("99 33"), 1, 0);
     planks(foot("993 999 999"), 2, 4, 6);
     planks(foot("999 999 399"), 2, 0, 3);
+    planks(foot("3999 9399 9993 9993"), 1, 10);
+    planks(foot("9993 9939 3999 3999"), 1, 9);
     planks(foot("999993 999993 999993 999993 999999 999999"), 2, 28, 33);
     planks(foot("999993 999993 999993 999993 999993 999999"), 1, 34);
   }
@@ -416,6 +478,13 @@ public final class WayEdges extends Edges {
     takesFeet((x, f) -> x.planks(f, 0), STUCK);
     takesFeet((x, f) -> x.planks(f, MOST), STUCK);
     takesFeet((x, f) -> x.planks(f, -2), BAD);
+  }
+
+  @Of(promise = 39, says = "FEET have numbers, 0 on, 8 at most")
+  static void p39_lastOfEight() {
+    GravelHasTheLastWord x = ears(crowd(drive("99 99"), FOOT, 0, 1), 0, 9);
+    found("planks, the last", i -> x.planks(7, i), 2, 0, 2);
+    found("planks, another", i -> x.planks(6, i), 0);
   }
 
   // ---- 40: column
@@ -429,9 +498,15 @@ public final class WayEdges extends Edges {
     due("no GRAVEL anywhere", feet(evenly(6, 0), SPUR, 9, 1).column(0), 0);
     due("the most everywhere", loudestOfAll().column(0), 0);
     due("the last of six", foot("111110 111110 111110 111110 111110 111111").column(0), 5);
+    due("by the CELL at the door", foot("11111 11111 11111 11111 11110").column(0), 4);
+    due("by the CELL at the door", foot("111111 111111 111111 111111 111111 111110").column(0), 5);
+    due("by the CELL at the gate", foot("111110 111111 111111 111111 111111 111111").column(0), 5);
+    GravelHasTheLastWord x = crowd(drive("21 21"), FOOT, 0, 1);
+    due("of the last", x.column(7), 1);
+    due("of another", x.column(6), 0);
     due("LAME by ROWS", feet(drive("35 53"), LAME, 0, 1).column(0), 0);
     due("LAME by ROWS", feet(drive("53 35"), LAME, 0, 1).column(0), 1);
-    takesFeet((x, f) -> x.column(f), 0);
+    takesFeet((y, f) -> y.column(f), 0);
   }
 
   // ---- 42: worst
@@ -444,10 +519,13 @@ public final class WayEdges extends Edges {
     due("the last of 36", foot("1".repeat(35) + "2").worst(0), 35);
     due("no GRAVEL anywhere", feet(evenly(6, 0), SPUR, 9, 1).worst(0), 0);
     due("the most everywhere", feet(evenly(6, 9), FOOT, 9, 1).worst(0), 0);
+    GravelHasTheLastWord x = crowd(drive("12 21"), FOOT, 0, 1);
+    due("of the last", x.worst(7), 1);
+    due("of another", x.worst(6), 0);
     due("SPUR, where k is odd", loudestOfAll().worst(0), 6);
     due("LAME, where k is even", feet(drive("39 99"), LAME, 0, 1).worst(0), 1);
     due("LAME, the door as the 2nd", feet(drive("333 999 444"), LAME, 0, 1).worst(0), 3);
-    takesFeet((x, f) -> x.worst(f), 0);
+    takesFeet((y, f) -> y.worst(f), 0);
   }
 
   // ---- 43: ranked
@@ -494,6 +572,12 @@ public final class WayEdges extends Edges {
     duel(loudestOfAll(), 0, 219);
     duel(feet(drive("93 39"), LAME, 0, 1), 1, 10);
     duel(feet(drive("39 93"), SPUR, 0, 1), 0, 25);
+    duel(feet(drive("33 93"), SPUR, 0, 1), 3, 25);
+    duel(feet(drive("33 39"), SPUR, 0, 1), 2, 25);
+    GravelHasTheLastWord x = crowd(drive("93 33"), FOOT, 0, 1);
+    due("duel of the last, the CELL", x.duel(7, 0), 1);
+    due("duel of the last, how loud", x.duel(7, 1), 12);
+    due("duel of another, how loud", x.duel(6, 1), 6);
     duel(feet(drive("11 14"), CAT, 9, 1), 0, 0);
     duel(ears(foot("93 33"), 2, 4), 1, 8);
   }
