@@ -360,10 +360,10 @@ public final class GravelHasTheLastWord {
         if (!isFeet(i)) {
             return refuse(BAD);
         }
-        for (int f = 0; f < now.walkers; f++) {
+        for (int f = 0; f < now.count(); f++) {
             volumes[f] = leastOf(f);
         }
-        for (int f = 0; f < now.walkers; f++) {
+        for (int f = 0; f < now.count(); f++) {
             if (placeOf(f) == i) {
                 return f;
             }
@@ -398,7 +398,7 @@ public final class GravelHasTheLastWord {
             return refuse(BAD);
         }
         int bits = 0;
-        for (int f = 0; f < now.walkers; f++) {
+        for (int f = 0; f < now.count(); f++) {
             if (now.stepOn(f, cell) >= now.ear) {
                 bits |= 1 << f;
             }
@@ -449,7 +449,7 @@ public final class GravelHasTheLastWord {
         int bits = 0;
         for (int c = 0; c < now.width; c++) {
             listen(c, now.rain);
-            for (int f = 0; f < now.walkers; f++) {
+            for (int f = 0; f < now.count(); f++) {
                 if (f != feet && sounds[f] == sounds[feet]) {
                     bits |= 1 << f;
                 }
@@ -523,8 +523,8 @@ public final class GravelHasTheLastWord {
         }
         int count = 0;
         int first = NONE;
-        for (int f = 0; f < now.walkers; f++) {
-            for (int g = 0; g < now.walkers; g++) {
+        for (int f = 0; f < now.count(); f++) {
+            for (int g = 0; g < now.count(); g++) {
                 if (f != g && areTogether(s, f, column, g, other)) {
                     first = count == 0 ? 10 * f + g : first;
                     count++;
@@ -606,7 +606,7 @@ public final class GravelHasTheLastWord {
         if (!isWithin(m, 1, MOST_ARRIVALS)) {
             return refuse(BAD);
         }
-        if (now.walkers == 0) {
+        if (now.count() == 0) {
             return refuse(STUCK);
         }
         int right = 0;
@@ -637,13 +637,13 @@ public final class GravelHasTheLastWord {
             return refuse(STUCK);
         }
         now.takeFrom(kept);
-        shelves.dropFeetFrom(now.walkers);
+        shelves.dropFeetFrom(now.count());
         return 1;
     }
 
     public int status(int what) {
         switch (what) {
-            case 0: return now.walkers;
+            case 0: return now.count();
             case 1: return now.width;
             case 2: return now.rain;
             case 3: return now.ear;
@@ -680,7 +680,7 @@ public final class GravelHasTheLastWord {
     }
 
     private boolean isFeet(int feet) {
-        return isWithin(feet, 0, now.walkers - 1);
+        return isWithin(feet, 0, now.count() - 1);
     }
 
     private boolean isPair(int feet, int other) {
@@ -777,7 +777,7 @@ public final class GravelHasTheLastWord {
     /** How many FEET go ahead of these by how loud they are. */
     private int placeOf(int feet) {
         int ahead = 0;
-        for (int f = 0; f < now.walkers; f++) {
+        for (int f = 0; f < now.count(); f++) {
             if (volumes[f] < volumes[feet] || (volumes[f] == volumes[feet] && f < feet)) {
                 ahead++;
             }
@@ -788,14 +788,14 @@ public final class GravelHasTheLastWord {
     // ---- sounds
 
     private void listen(int column, int rain) {
-        for (int f = 0; f < now.walkers; f++) {
+        for (int f = 0; f < now.count(); f++) {
             sounds[f] = now.soundUnder(f, column, rain);
         }
     }
 
     private int soundingAs(int feet) {
         int bits = 0;
-        for (int f = 0; f < now.walkers; f++) {
+        for (int f = 0; f < now.count(); f++) {
             if (sounds[f] == sounds[feet]) {
                 bits |= 1 << f;
             }
@@ -806,7 +806,7 @@ public final class GravelHasTheLastWord {
     private int apartUnder(int column, int rain) {
         listen(column, rain);
         int count = 0;
-        for (int f = 0; f < now.walkers; f++) {
+        for (int f = 0; f < now.count(); f++) {
             if (soundingAs(f) == 1 << f) {
                 count++;
             }
@@ -830,7 +830,7 @@ public final class GravelHasTheLastWord {
     private int leastRainApart() {
         for (int rain = 0; rain <= MOST_RAIN; rain++) {
             for (int c = 0; c < now.width; c++) {
-                if (apartUnder(c, rain) == now.walkers) {
+                if (apartUnder(c, rain) == now.count()) {
                     return rain;
                 }
             }
@@ -851,7 +851,7 @@ public final class GravelHasTheLastWord {
 
     private int fitting(int s, int column, int elements) {
         int bits = 0;
-        for (int f = 0; f < now.walkers; f++) {
+        for (int f = 0; f < now.count(); f++) {
             if (isToldSo(s, now.kindOf(f), now.weightOf(f), column, elements)) {
                 bits |= 1 << f;
             }
@@ -871,7 +871,7 @@ public final class GravelHasTheLastWord {
     private int likeliestOf(int bits) {
         int best = NONE;
         int most = 0;
-        for (int f = 0; f < now.walkers; f++) {
+        for (int f = 0; f < now.count(); f++) {
             if ((bits >> f & 1) == 1 && now.chanceOf(f) > most) {
                 most = now.chanceOf(f);
                 best = f;
@@ -882,7 +882,7 @@ public final class GravelHasTheLastWord {
 
     private int chancesOf(int bits) {
         int all = 0;
-        for (int f = 0; f < now.walkers; f++) {
+        for (int f = 0; f < now.count(); f++) {
             if ((bits >> f & 1) == 1) {
                 all += now.chanceOf(f);
             }
@@ -1037,6 +1037,11 @@ public final class GravelHasTheLastWord {
             return all;
         }
 
+        /** How many FEET there are; never more than the rows of them have places. */
+        int count() {
+            return Math.min(walkers, MOST_FEET);
+        }
+
         boolean isFull() {
             return walkers >= MOST_FEET;
         }
@@ -1065,7 +1070,7 @@ public final class GravelHasTheLastWord {
 
         int allChances() {
             int all = 0;
-            for (int f = 0; f < walkers; f++) {
+            for (int f = 0; f < count(); f++) {
                 all += chanceOf(f);
             }
             return all;
@@ -1123,7 +1128,7 @@ public final class GravelHasTheLastWord {
 
         int drawFeet() {
             int left = drawBelow(allChances());
-            for (int f = 0; f < walkers; f++) {
+            for (int f = 0; f < count(); f++) {
                 left -= chanceOf(f);
                 if (left < 0) {
                     return f;
@@ -1316,15 +1321,16 @@ public final class GravelHasTheLastWord {
             if (isPassable() == wanted) {
                 return 0;
             }
-            if (isTurnedBehind(0, 0, wanted)) {
+            turned[0] = firstTurned(0, wanted);
+            if (turned[0] != NONE) {
                 return 1;
             }
             for (int cell = 0; cell < length() * length(); cell++) {
                 if (turnable[cellIn(0, cell)]) {
                     turn(cell);
-                    boolean isFound = isTurnedBehind(cell + 1, 1, wanted);
+                    turned[1] = firstTurned(cell + 1, wanted);
                     turn(cell);
-                    if (isFound) {
+                    if (turned[1] != NONE) {
                         turned[0] = cell;
                         return 2;
                     }
@@ -1333,20 +1339,19 @@ public final class GravelHasTheLastWord {
             return NONE;
         }
 
-        /** Whether one CELL from a first one on does it; it is kept at that place. */
-        private boolean isTurnedBehind(int first, int place, boolean wanted) {
-            for (int cell = first; cell < length() * length(); cell++) {
+        /** The first CELL, from one on, that does it alone; NONE. */
+        private int firstTurned(int from, boolean wanted) {
+            for (int cell = from; cell < length() * length(); cell++) {
                 if (turnable[cellIn(0, cell)]) {
                     turn(cell);
                     boolean isFound = isPassable() == wanted;
                     turn(cell);
                     if (isFound) {
-                        turned[place] = cell;
-                        return true;
+                        return cell;
                     }
                 }
             }
-            return false;
+            return NONE;
         }
     }
 

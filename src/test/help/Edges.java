@@ -1,6 +1,8 @@
 import java.lang.reflect.InvocationTargetException;
 import java.lang.reflect.Method;
+import java.lang.reflect.Modifier;
 import java.util.ArrayList;
+import java.util.Arrays;
 import java.util.Comparator;
 import java.util.List;
 import java.util.function.IntUnaryOperator;
@@ -66,6 +68,30 @@ abstract class Edges {
     } catch (IllegalAccessException e) {
       due("can't be called", 1, 0);
     }
+  }
+
+  /** All calls of the class, by their names. */
+  static List<Method> calls() {
+    List<Method> found = new ArrayList<>(List.of(GravelHasTheLastWord.class.getDeclaredMethods()));
+    found.removeIf(m -> !Modifier.isPublic(m.getModifiers()));
+    found.sort(Comparator.comparing(Method::getName));
+    return found;
+  }
+
+  /** What a call answers to those numbers. */
+  static long answer(GravelHasTheLastWord x, Method m, int... numbers) throws ReflectiveOperationException {
+    Object[] boxed = new Object[numbers.length];
+    for (int i = 0; i < numbers.length; i++) {
+      boxed[i] = m.getParameterTypes()[i] == long.class ? (Object) (long) numbers[i] : (Object) numbers[i];
+    }
+    return ((Number) m.invoke(x, boxed)).longValue();
+  }
+
+  /** As many numbers as a call wants, each the same one. */
+  static int[] allOf(Method m, int number) {
+    int[] numbers = new int[m.getParameterCount()];
+    Arrays.fill(numbers, number);
+    return numbers;
   }
 
   static void due(String what, long got, long want) {

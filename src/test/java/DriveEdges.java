@@ -48,6 +48,20 @@ public final class DriveEdges extends Edges {
     due("holds", x.holds(3), 12);
   }
 
+  @Of(promise = 9, says = "BAD.")
+  static void p09_refusedLeavesIt() {
+    int[] beyond = {7, 1, 0, -6, LEAST, MOST};
+    for (int side = 2; side <= 6; side++) {
+      GravelHasTheLastWord x = evenly(side, 7);
+      for (int n : beyond) {
+        due("side " + n, x.side(n), BAD);
+      }
+      due("SIDE", x.status(1), side);
+      due("all GRAVEL", x.status(4), 7 * side * side);
+      due("each counted once", x.status(12), beyond.length);
+    }
+  }
+
   @Of(promise = 9, says = "CELLS 0 to n times n less 1, n to a ROW (of the drive)")
   static void p09_cells() {
     for (int n = 2; n <= 6; n++) {
@@ -192,7 +206,7 @@ public final class DriveEdges extends Edges {
     due("each counted as what it is", x.status(12) * 10 + x.status(16), 41);
   }
 
-  @Of(promise = 12, says = "the number. BAD")
+  @Of(promise = 12, says = "FEET: the number. BAD")
   static void p12_refusedIsNoFeet() {
     GravelHasTheLastWord x = fresh();
     x.feet(6, 0, 1);
@@ -343,7 +357,7 @@ public final class DriveEdges extends Edges {
     refuses("FEET of none", 0, -1, f -> fresh().crunch(f, 0, 0), BAD);
   }
 
-  @Of(promise = 18, says = "CRUNCH of FEET on a CELL as the k-th (0 to 5).")
+  @Of(promise = 18, says = "CRUNCH of FEET on a CELL as the k-th CELL of a WAY (k 0 on)")
   static void p18_kIsNotTheRow() {
     GravelHasTheLastWord x = feet(evenly(2, 3), LAME, 1, 1);
     due("a CELL at the gate as the 1st", x.crunch(0, 0, 1), 2);

@@ -56,7 +56,7 @@ public final class HeardEdges extends Edges {
     who(fill(feet(evenly(2, 3), 0, 1, 99, 0, 0, 1), 0, 2, 3, 3), 0, 2, 1, 1000, 1);
   }
 
-  @Of(promise = 23, says = "1000 times its LIKELY by all LIKELY of those that fit (cut)")
+  @Of(promise = 23, says = "SHARE of that: 1000 times its LIKELY by all LIKELY of those that fit (cut)")
   static void p23_share() {
     who(fill(feet(evenly(2, 3), 0, 0, 1, 0, 0, 2), 0, 2, 3, 3), 1, 3, 1, 666, NONE);
     who(fill(feet(evenly(2, 3), 0, 0, 98, 0, 0, 99), 0, 2, 3, 3), 1, 3, 1, 502, NONE);
@@ -208,7 +208,7 @@ public final class HeardEdges extends Edges {
     }
   }
 
-  @Of(promise = 24, says = "BAD.")
+  @Of(promise = 24, says = "APART on a COLUMN. BAD.")
   static void p24_columns() {
     for (int n = 2; n <= 6; n++) {
       takes("COLUMN of SIDE " + n, 0, n - 1, feet(evenly(n, 3), FOOT, 0, 1)::apart, 1);
@@ -275,7 +275,7 @@ public final class HeardEdges extends Edges {
     }
   }
 
-  @Of(promise = 25, says = "BAD. (NONE isn't refused.)")
+  @Of(promise = 25, says = "TELLING (what 0), TURN (1; NONE). BAD. (NONE isn't refused.)")
   static void p25_what() {
     GravelHasTheLastWord x = alike(evenly(2, 3));
     due("TURN", x.telling(1), NONE);
@@ -310,6 +310,16 @@ public final class HeardEdges extends Edges {
     as(feet(drive("213 321 231"), FOOT, 0, 1, FOOT, 0, 1), 0, 1, 0, 1, 0, 3, 6);
     as(feet(drive("233 323 232"), FOOT, 0, 1, FOOT, 0, 1), 0, 1, 0, 1, 0, 3, 6);
     as(feet(drive("322 233 223"), FOOT, 0, 1, FOOT, 0, 1), 0, 1, 2, 4, 1, 4, 8);
+  }
+
+  @Of(promise = 26, says = "how many; the i-th CELL of the first by rows.")
+  static void p26_firstByRows() {
+    as(alike(drive("121 212 121")), 0, 1, 0, 2, 0, 3, 6);
+    as(alike(drive("121 212 121")), 0, 1, 2, 2, 0, 3, 6);
+    as(alike(drive("212 121 212")), 0, 1, 1, 1, 1, 4, 7);
+    as(alike(drive("331 133 313")), 0, 1, 0, 2, 0, 3, 6);
+    as(alike(drive("331 133 313")), 0, 1, 2, 3, 2, 4, 6);
+    as(alike(drive("133 331 313")), 0, 1, 2, 2, 1, 5, 8);
   }
 
   @Of(promise = 26, says = "AS: WAYS by which FEET x sound just as FEET y STRAIGHT up a COLUMN")
@@ -369,6 +379,32 @@ public final class HeardEdges extends Edges {
     two(fill(alike(evenly(3, 3)), 0, 2, 6, 6, 5), 0, 2, 0, NONE);
     two(fill(alike(evenly(3, 3)), 0, 2, 7, 6, 6), 0, 2, 0, NONE);
     two(fill(alike(evenly(3, 3)), 0, 3, 6, 6, 4294967302L), 0, 2, 0, NONE);
+  }
+
+  @Of(promise = 27, says = "TWO by a ROW: pairs of two FEET, the one STRAIGHT up a COLUMN, the other up another, whose CRUNCHES together, "
+      + "element by element, are so")
+  static void p27_elementByElement() {
+    GravelHasTheLastWord x = feet(evenly(2, 3), FOOT, 0, 1, LAME, 0, 1);
+    two(fill(x, 0, 2, 6, 4), 0, 1, 2, 1);
+    two(fill(x, 0, 2, 4, 6), 0, 1, 0, NONE);
+    two(fill(x, 0, 2, 5, 5), 0, 1, 0, NONE);
+    two(fill(x, 0, 2, 6, 6), 0, 1, 0, NONE);
+    GravelHasTheLastWord y = feet(drive("21 12"), FOOT, 0, 1, FOOT, 0, 1);
+    two(fill(y, 0, 2, 3, 3), 0, 1, 2, 1);
+    two(fill(y, 0, 2, 4, 2), 0, 1, 0, NONE);
+    two(fill(y, 0, 2, 2, 4), 0, 1, 0, NONE);
+    GravelHasTheLastWord z = feet(drive("15 15"), FOOT, 0, 1, BOOT, 0, 1);
+    two(fill(z, 0, 2, 11, 11), 0, 1, 1, 1);
+    two(fill(z, 0, 2, 7, 7), 0, 1, 1, 10);
+    two(fill(z, 0, 2, 11, 11), 1, 0, 1, 10);
+  }
+
+  @Of(promise = 27, says = "(NONE isn't refused.)")
+  static void p27_noneIsNotRefused() {
+    GravelHasTheLastWord x = fill(alike(evenly(2, 3)), 0, 2, 6, 7);
+    due("the first", x.two(0, 0, 1, 1), NONE);
+    due("how many", x.two(0, 0, 1, 0), 0);
+    dueAll("REFUSALS", why -> x.status(12 + why), 0, 0, 0, 0, 0);
   }
 
   @Of(promise = 27, says = "the first: 10 times the one and the other")
@@ -452,6 +488,37 @@ public final class HeardEdges extends Edges {
     meant(fill(feet(evenly(6, 0), CAT, 9, 1), 0, 2, 0, 0, 0, 0, 0, 0), 63, 0);
     meant(fill(feet(ears(evenly(6, 9), 9, 1), SPUR, 9, 1), 0, 2, 0, 0, 0, 0, 0, 0), 63, 0);
     meant(fill(feet(evenly(6, 9), CAT, 9, 1), 0, 2, 15, 15, 15, 15, 15, 15), 20, 9);
+  }
+
+  @Of(promise = 28, says = "MEANT by a ROW, of FEET STRAIGHT up a COLUMN")
+  static void p28_straightUp() {
+    GravelHasTheLastWord x = feet(drive("13 25"), FOOT, 0, 1, LAME, 0, 1);
+    int[][] rows = {{1, 2}, {3, 5}, {0, 2}, {6, 11}, {3, 2}, {4, 3}, {5, 3}};
+    int[] upTheFirst = {1, 0, 0, 0, 0, 0, 0};
+    int[] upTheSecond = {0, 1, 20, 8, 32, 0, 0};
+    int[] leastOfLame = {NONE, NONE, NONE, NONE, 0, 1, 2};
+    for (int i = 0; i < rows.length; i++) {
+      fill(x, 0, 2, rows[i][0], rows[i][1]);
+      due("KINDS up COLUMN 0", x.meant(0, 0, 0, 0), upTheFirst[i]);
+      due("KINDS up COLUMN 1", x.meant(0, 0, 1, 0), upTheSecond[i]);
+      due("the least a of LAME", x.meant(0, 1, 1, 1), leastOfLame[i]);
+    }
+    due("up the other COLUMN", fill(x, 0, 2, 5, 3).meant(0, 1, 0, 1), 4);
+  }
+
+  @Of(promise = 28, says = "KINDS (what 0), the least a (1; NONE).")
+  static void p28_what() {
+    GravelHasTheLastWord x = feet(evenly(2, 3), FOOT, 0, 1);
+    dueAll("a BOOT of a 0, a FOOT of a 3", what -> fill(x, 0, 2, 6, 6).meant(0, 0, 0, what), 2, 3);
+    dueAll("a FOOT of a 0", what -> fill(x, 0, 2, 3, 3).meant(0, 0, 0, what), 1, 0);
+    dueAll("nobody", what -> fill(x, 0, 2, 99, 99).meant(0, 0, 0, what), 0, NONE);
+  }
+
+  @Of(promise = 28, says = "(NONE isn't refused.)")
+  static void p28_noneIsNotRefused() {
+    GravelHasTheLastWord x = fill(feet(evenly(2, 3), FOOT, 0, 1), 0, 2, 99, 99);
+    due("the least a", x.meant(0, 0, 0, 1), NONE);
+    dueAll("REFUSALS", why -> x.status(12 + why), 0, 0, 0, 0, 0);
   }
 
   @Of(promise = 28, says = "the least a (0 to 9) by which they would, of their KIND; NONE")
@@ -609,6 +676,13 @@ public final class HeardEdges extends Edges {
     }
     refuses("FEET of one", 0, -1, f -> foot("33 33").gap(f, 0, 0), BAD);
     refuses("other FEET of one", 0, -1, f -> foot("33 33").gap(0, f, 0), BAD);
+  }
+
+  @Of(promise = 37, says = "(NONE isn't refused.)")
+  static void p37_noneIsNotRefused() {
+    GravelHasTheLastWord x = alike(evenly(6, 3));
+    due("gap", x.gap(0, 7, 5), NONE);
+    dueAll("REFUSALS", why -> x.status(12 + why), 0, 0, 0, 0, 0);
   }
 
   // ---- 38: confused

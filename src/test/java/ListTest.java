@@ -10,7 +10,8 @@ import java.util.TreeMap;
 
 /**
  * src/test/LIST.md tells which test belongs to which promise and sentence: that it names every one, that each quotes the
- * document, and that each promise has one. "java ListTest write" writes it anew.
+ * document, that each promise has one, and that no sentence of the document is left without one. "java ListTest write"
+ * writes it anew.
  */
 public final class ListTest {
   private static final Class<?>[] TESTS = {
@@ -61,7 +62,7 @@ public final class ListTest {
     lines.add("# Which test belongs to which promise and sentence");
     lines.add("");
     lines.add("Made by `java ListTest write` from the words that each test quotes; `ListTest` fails if it isn't so any more.");
-    lines.add("Beside these, `PromisesTest` has a test of each promise, and `ModelTest` random runs of all calls.");
+    lines.add("Beside these, `PromisesTest` has a test of each promise, `ModelTest` random runs of all calls, `FaceTest` the public face.");
     int at = -1;
     for (Method m : tests()) {
       Of of = m.getAnnotation(Of.class);
@@ -91,12 +92,49 @@ public final class ListTest {
     }
   }
 
+  /** What of a promise, or of the terms, a test must stand for: all but headings, the face and what isn't promised. */
+  private static String sentences(int promise, String section) {
+    if (promise > 0) {
+      return section.substring(section.indexOf("`: ", section.indexOf('`') + 1) + 3);
+    }
+    String used = section.substring(section.indexOf("An object is used"), section.indexOf("## The public face"));
+    String terms = section.substring(section.indexOf("## Terms") + 8, section.indexOf("## Not promised"));
+    return used + terms.replaceAll("==== [123]\\. THE DRIVE|==== [123]\\. WHAT IS HEARD|```text|```", " ");
+  }
+
+  /** The letters of a text that no quote stands for, blanks in place of those that one does. */
+  private static String left(String text, List<String> quotes) {
+    StringBuilder rest = new StringBuilder(text);
+    for (String quote : quotes) {
+      for (int at = text.indexOf(quote); at >= 0; at = text.indexOf(quote, at + 1)) {
+        rest.replace(at, at + quote.length(), " ".repeat(quote.length()));
+      }
+    }
+    return rest.toString().replaceAll("[^A-Za-z0-9]+", " ").trim();
+  }
+
+  private static void everySentence() throws IOException {
+    TreeMap<Integer, String> sections = sections();
+    for (int promise : sections.keySet()) {
+      List<String> quotes = new ArrayList<>();
+      for (Method m : tests()) {
+        Of of = m.getAnnotation(Of.class);
+        if (promise == 0 || of.promise() == promise) {
+          quotes.add(of.says());
+        }
+      }
+      String rest = left(sentences(promise, sections.get(promise)), quotes);
+      need(rest.isEmpty(), "no test stands for this of promise " + promise + " (0: the terms): " + rest);
+    }
+  }
+
   public static void main(String[] args) throws IOException {
     if (args.length == 1 && args[0].equals("write")) {
       Files.write(LIST, list());
     }
     if (Files.exists(DOCUMENT)) {
       quotes();
+      everySentence();
     } else {
       System.out.println("no document here: the quotes aren't looked at");
     }

@@ -335,7 +335,7 @@ public final class ShelfEdges extends Edges {
     due("as it was", x.element(0, 0), 7);
   }
 
-  @Of(promise = 4, says = "n elements of the ROW in SHELF p from place i on come to places j on of that in q")
+  @Of(promise = 4, says = "n elements of the ROW in SHELF p from place i on come to places j on of that in q (as they were): n.")
   static void p04_theLongest() {
     GravelHasTheLastWord x = fresh();
     x.row(6, 3, 40);
@@ -410,7 +410,7 @@ public final class ShelfEdges extends Edges {
 
   // ---- 5: element
 
-  @Of(promise = 5, says = "0: none, no ROW (nothing is refused).")
+  @Of(promise = 5, says = "Element i of the ROW; 0: none, no ROW (nothing is refused).")
   static void p05_none() {
     GravelHasTheLastWord x = lived();
     fill(x, 7, 3, Long.MIN_VALUE, Long.MAX_VALUE);
@@ -441,7 +441,7 @@ public final class ShelfEdges extends Edges {
 
   // ---- 6: holds
 
-  @Of(promise = 6, says = "NONE NOTHING, no SHELF; 0 to 4 a ROW by its SORT; 10 and the number of FEET.")
+  @Of(promise = 6, says = "What SHELF s holds: NONE NOTHING, no SHELF; 0 to 4 a ROW by its SORT; 10 and the number of FEET.")
   static void p06_everything() {
     GravelHasTheLastWord x = feet(fresh(), 0, 0, 1, 0, 0, 1, 0, 0, 1, 0, 0, 1, 0, 0, 1, 0, 0, 1, 0, 0, 1, 0, 0, 1);
     for (int f = 0; f < 8; f++) {
@@ -529,7 +529,7 @@ public final class ShelfEdges extends Edges {
     due("OTHER, how often", x.status(13), 23);
   }
 
-  @Of(promise = 8, says = "the CRUNCH on CELL 0 as the 1st (k 1) of a WAY, by their own KIND")
+  @Of(promise = 8, says = "BOOT, SPUR, SOFT, CAT, LAME the CRUNCH on CELL 0 as the 1st (k 1) of a WAY, by their own KIND.")
   static void p08_onCellZero() {
     GravelHasTheLastWord x = six("4999");
     due("a CAT taken for SOFT, WET 4", x.says(CAT, SOFT), 0);

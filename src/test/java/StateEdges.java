@@ -1,3 +1,4 @@
+import java.lang.reflect.Method;
 import java.util.List;
 import java.util.function.ToLongFunction;
 
@@ -529,7 +530,136 @@ public final class StateEdges extends Edges {
     changesNothing("status, none", x -> x.status(17));
   }
 
+  // ---- REFUSALS
+
+  /** A refused call answers the number, and is counted once, as what it is. */
+  private static void refused(String what, GravelHasTheLastWord x, ToLongFunction<GravelHasTheLastWord> call, int why) {
+    int[] ahead = new int[5];
+    for (int i = 0; i < 5; i++) {
+      ahead[i] = x.status(12 + i);
+    }
+    due(what, call.applyAsLong(x), why);
+    for (int i = 0; i < 5; i++) {
+      due(what + ", REFUSALS " + (-2 - i), x.status(12 + i), why == -2 - i ? ahead[i] + 1 : ahead[i]);
+    }
+  }
+
+  /** All calls that want a ROW in a SHELF, when another thing is in it. */
+  private static void wantsRow(int s, int why) {
+    refused("set", lived(), x -> x.set(s, 0, 1), why);
+    refused("copy from there", lived(), x -> x.copy(s, 0, 0, 0, 1), why);
+    refused("copy to there", lived(), x -> x.copy(0, s, 0, 0, 1), why);
+    refused("who", lived(), x -> x.who(s, 0, 0), why);
+    refused("two", lived(), x -> x.two(s, 0, 1, 0), why);
+    refused("meant", lived(), x -> x.meant(s, 0, 0, 0), why);
+    refused("judge", lived(), x -> x.judge(s, 3), why);
+    refused("loud", lived(), x -> x.loud(s, 3, 0, 0), why);
+    refused("done", lived(), x -> x.done(s, 3, 0), why);
+  }
+
+  @Of(promise = 0, says = "-2 BAD a number that may not be, nothing of that number.")
+  static void p00_bad() throws ReflectiveOperationException {
+    List<String> never = List.of("element", "holds", "wipe", "drive", "ways", "silent", "rake", "seed", "image", "back", "status");
+    int[] numbers = {LEAST, -3, 41, MOST};
+    int tried = 0;
+    for (Method m : calls()) {
+      for (int number : numbers) {
+        boolean isByte = m.getName().equals("feed") && number == 41;
+        boolean isArrivals = m.getName().equals("arrivals") && number == 41;
+        if (!never.contains(m.getName()) && !isByte && !isArrivals) {
+          tried++;
+          GravelHasTheLastWord x = lived();
+          due(m.getName() + " by " + number, answer(x, m, allOf(m, number)), BAD);
+          due("counted", x.status(12), 1);
+        }
+      }
+    }
+    due("calls that may be BAD, four numbers each", tried, 42 * 4 - 2);
+    refused("nothing of that number: FEET", fresh(), x -> x.odds(0), BAD);
+    refused("CELL", lived(), x -> x.cellOf(9, 0), BAD);
+    refused("COLUMN", lived(), x -> x.apart(3), BAD);
+    refused("element", lived(), x -> x.set(0, 3, 1), BAD);
+  }
+
+  @Of(promise = 0, says = "-3 OTHER: a SHELF that holds another thing than is wanted.")
+  static void p00_other() {
+    wantsRow(2, OTHER);
+    refused("says", lived(), x -> x.says(0, FOOT), OTHER);
+  }
+
+  @Of(promise = 0, says = "-4 NOTHING: a SHELF that holds NOTHING.")
+  static void p00_nothing() {
+    wantsRow(6, NOTHING);
+    wantsRow(7, NOTHING);
+    refused("says", lived(), x -> x.says(6, FOOT), NOTHING);
+  }
+
+  @Of(promise = 0, says = "-5 STUCK: it can't be as things stand.")
+  static void p00_stuck() {
+    refused("unheard", ears(lived(), 0, 1), x -> x.unheard(2, 0), STUCK);
+    refused("raked", lived(), x -> x.raked(0, 2), STUCK);
+    refused("planks", lived(), x -> x.planks(0, 2), STUCK);
+    refused("who", lived(), x -> x.who(0, 0, 2), STUCK);
+    refused("as", lived(), x -> x.as(1, 2, 0, 0), STUCK);
+    refused("loud", lived(), x -> x.loud(0, 3, 0, 0), STUCK);
+    refused("done", lived(), x -> x.done(0, 3, 0), STUCK);
+    refused("arrivals", nobody(), x -> x.arrivals(1), STUCK);
+    refused("back", nobody(), x -> x.back(), STUCK);
+  }
+
+  @Of(promise = 0, says = "-6 FULL.")
+  static void p00_full() {
+    refused("feet", filled(), x -> x.feet(0, 0, 1), FULL);
+    refused("feed", filled(), x -> x.feed(0), FULL);
+  }
+
+  @Of(promise = 0, says = "REFUSALS (the call answers the number; nothing changes but how many there were;")
+  static void p00_oneBehindAnother() {
+    GravelHasTheLastWord x = filled();
+    for (int round = 0; round < 3; round++) {
+      refused("BAD", x, y -> y.side(7), BAD);
+      refused("OTHER", x, y -> y.set(2, 0, 1), OTHER);
+      refused("NOTHING", x, y -> y.set(6, 0, 1), NOTHING);
+      refused("STUCK", x, y -> y.done(0, 3, 0), STUCK);
+      refused("FULL", x, y -> y.feed(0), FULL);
+    }
+    dueAll("REFUSALS", why -> x.status(12 + why), 3, 3, 3, 3, 3);
+    x.wipe();
+    refused("a FAULT is BAD too", x, y -> y.drive() + 18, BAD);
+  }
+
+  @Of(promise = 0, says = "the first that fits as each line has them):")
+  static void p00_theFirstThatFits() {
+    refused("COLUMN, then FEET on the SHELF", lived(), x -> x.who(2, 3, 0), BAD);
+    refused("n, then NOTHING", lived(), x -> x.judge(6, 41), BAD);
+    refused("FEET on the one SHELF, then NOTHING", lived(), x -> x.copy(2, 6, 0, 0, 1), OTHER);
+    refused("NOTHING on the one SHELF, and FEET", lived(), x -> x.copy(6, 2, 0, 0, 1), OTHER);
+    refused("FEET on the SHELF, then i", lived(), x -> x.set(2, 40, 1), OTHER);
+    refused("NOTHING, then i", lived(), x -> x.set(6, 40, 1), NOTHING);
+    refused("fewer elements, then none fits", lived(), x -> x.who(5, 0, 2), BAD);
+    refused("fewer elements, then WRONG", lived(), x -> x.done(1, 6, 0), BAD);
+    refused("i, then STUCK", ears(lived(), 0, 1), x -> x.unheard(2, 3), BAD);
+    refused("m, then STUCK", nobody(), x -> x.arrivals(61), BAD);
+    refused("LIKELY, then FULL", filled(), x -> x.feet(0, 0, 100), BAD);
+    refused("no byte, then FULL", filled(), x -> x.feed(256), BAD);
+  }
+
   // ---- how long an object is used
+
+  @Of(promise = 0, says = "what later calls answer is free")
+  static void p00_laterCalls() throws ReflectiveOperationException {
+    GravelHasTheLastWord x = filled();
+    for (int call = 1; call <= 2000; call++) {
+      x.ways();
+    }
+    int[] numbers = {LEAST, NONE, 0, 1, 2, MOST};
+    for (Method m : calls()) {
+      for (int number : numbers) {
+        answer(x, m, allOf(m, number));
+      }
+    }
+    due("it answers still", x.status(17), NONE);
+  }
 
   @Of(promise = 0, says = "An object is used for at most 512 calls after it has been made")
   static void p00_512calls() {

@@ -91,7 +91,20 @@ public final class TapeEdges extends Edges {
     due("all GRAVEL", after(many, 50).status(4), 144);
   }
 
-  @Of(promise = 15, says = "THE TAPE (bytes, 250 at most)")
+  @Of(promise = 15, says = "THE TAPE is a DRIVE: how many STATEMENTS")
+  static void p15_eachStatementCounts() {
+    String[] told = {"side 2", "gravel 0 0", "plank 0", "rake", "foot 0 0 1", "rain 0", "ear 1"};
+    String all = "";
+    for (int i = 0; i < told.length; i++) {
+      after(told[i], 1);
+      all = all + (i == 0 ? "" : ";") + told[i];
+      after(all, i + 1);
+    }
+    after(all + ";" + all, 14);
+    after(all + ";rake;rake", 9);
+  }
+
+  @Of(promise = 15, says = "A DRIVE is read from THE TAPE (bytes, 250 at most).")
   static void p15_fullTape() {
     GravelHasTheLastWord x = after("rake" + ";rake".repeat(48) + "; rake", 50);
     due("empty then", x.status(6), 0);
@@ -142,6 +155,29 @@ public final class TapeEdges extends Edges {
     fault("rain5x", 5);
   }
 
+  @Of(promise = 15, says = "WORDS (a .. z), NUMBERS (digits), the SIGN ; -")
+  static void p15_tokens() {
+    for (char letter = 'a'; letter <= 'z'; letter++) {
+      fault("" + letter, 0);
+      fault("rake" + letter, 0);
+      fault(letter + "rake", 0);
+      fault("rain 1" + letter, 6);
+      fault("rake;" + letter + ";rake", 5);
+    }
+    for (char digit = '0'; digit <= '9'; digit++) {
+      due("RAIN by " + digit, after("rain" + digit, 1).status(2), digit - '0');
+      due("EAR by 1 and " + digit, after("ear 1" + digit, 1).status(3), 10 + digit - '0');
+      due("EAR by " + digit + " and 1", after("ear " + digit + "1", 1).status(3), 10 * (digit - '0') + 1);
+      fault("rain 0" + digit + digit, 5);
+      fault("rake" + digit, 4);
+      fault("rake;" + digit, 5);
+    }
+    due("the SIGN parts WORDS and NUMBERS", after("rake;rain1;ear2;rake", 4).status(3), 2);
+    fault("rake;;rake", 5);
+    fault("rain;1", 4);
+    fault("gravel 1;1", 8);
+  }
+
   @Of(promise = 15, says = "the first TOKEN that can't stand there")
   static void p15_everyLetter() {
     String[] told = {"side 2", "gravel 0 0", "plank 0", "rake", "foot 0 0 1", "rain 0", "ear 1"};
@@ -158,7 +194,7 @@ public final class TapeEdges extends Edges {
     }
   }
 
-  @Of(promise = 15, says = "a NUMBER that may not be, or has more than 2 digits")
+  @Of(promise = 15, says = "(also a NUMBER that may not be, or has more than 2 digits")
   static void p15_digits() {
     due("one digit", after("ear 1", 1).status(3), 1);
     due("two digits", after("ear 01", 1).status(3), 1);
@@ -368,7 +404,7 @@ public final class TapeEdges extends Edges {
     }
   }
 
-  @Of(promise = 15, says = "the place of the first byte of the first TOKEN that can't stand there")
+  @Of(promise = 15, says = "The FAULT: the place of the first byte of the first TOKEN that can't stand there")
   static void p15_firstOfTwo() {
     fault(";", 0);
     fault("  ;", 2);

@@ -58,7 +58,7 @@ public final class ToldWayEdges extends Edges {
     due("the first of two", wrong(3, 0, 5, 6), 1);
   }
 
-  @Of(promise = 45, says = "its length, if that is less than n and nothing else is wrong")
+  @Of(promise = 45, says = "its length, if that is less than n and nothing else is wrong; NONE.")
   static void p45_length() {
     for (int n = 2; n <= 6; n++) {
       GravelHasTheLastWord x = fill(evenly(n, 3), 0, 2, 0, n, 2 * n, 3 * n, 4 * n, 5 * n, 6 * n);
@@ -245,7 +245,7 @@ public final class ToldWayEdges extends Edges {
     due("nothing is left", y.done(0, 2, 0), 0);
   }
 
-  @Of(promise = 47, says = "GRAVEL of all its CELLS is 1 less (0 at least)")
+  @Of(promise = 47, says = "IN TRUTH: a WAY gone by FEET: GRAVEL of all its CELLS is 1 less (0 at least).")
   static void p47_oneLess() {
     GravelHasTheLastWord x = fill(foot("10 29"), 0, 2, 1, 3, 0);
     due("done", x.done(0, 2, 0), 9);

@@ -90,7 +90,7 @@ public final class TruthEdges extends Edges {
     dueAll("of three, DRAW", draw -> oneArrival(z, seedFor(6, draw, 2, 1)), right);
   }
 
-  @Of(promise = 50, says = "FEET by a DRAW below all LIKELY together")
+  @Of(promise = 50, says = "ARRIVALS by draws, m: each: FEET by a DRAW below all LIKELY together")
   static void p50_eightFeet() {
     GravelHasTheLastWord x = evenly(6, 3);
     for (int f = 0; f < 8; f++) {
@@ -137,7 +137,7 @@ public final class TruthEdges extends Edges {
     dueAll("the second comes, RAIN", rain -> oneArrival(ears(x, rain, 4), seed), 0, 0, 0, 0, 0, 1, 1, 1, 1, 0);
   }
 
-  @Of(promise = 50, says = "SEED (1 at first) becomes SEED times 1103515245, and 12345 (an int, wrapping)")
+  @Of(promise = 50, says = "A DRAW below n: SEED (1 at first) becomes SEED times 1103515245, and 12345 (an int, wrapping)")
   static void p50_seed() {
     int[] seeds = {1, 0, -1, LEAST, MOST, 77};
     for (int seed : seeds) {

@@ -296,7 +296,7 @@ public final class WayEdges extends Edges {
 
   // ---- 29: loudest
 
-  @Of(promise = 29, says = "The WAY whose CRUNCHES together are most, of several the first by rows: all CRUNCHES (i NONE)")
+  @Of(promise = 29, says = "The WAY whose CRUNCHES together are most, of several the first by rows: all CRUNCHES (i NONE), the i-th CELL. BAD.")
   static void p29_everySide() {
     loudest(foot("33 33"), 6, 0, 2);
     loudest(foot("333 333 333"), 9, 0, 3, 6);
@@ -390,6 +390,13 @@ public final class WayEdges extends Edges {
       due("dry under " + rain, x.dry(0), 3);
       due("RAIN stays", x.status(2), rain);
     }
+  }
+
+  @Of(promise = 32, says = "(NONE isn't refused.)")
+  static void p32_noneIsNotRefused() {
+    GravelHasTheLastWord x = ears(loudestOfAll(), 0, 1);
+    due("by the most RAIN there is always one", x.dry(0), 9);
+    dueAll("REFUSALS", why -> x.status(12 + why), 0, 0, 0, 0, 0);
   }
 
   @Of(promise = 32, says = "FEET have numbers, 0 on, 8 at most")
@@ -528,6 +535,14 @@ public final class WayEdges extends Edges {
     takesFeet((y, f) -> y.worst(f), 0);
   }
 
+  @Of(promise = 42, says = "BAD.")
+  static void p42_feet() {
+    takesFeet((x, f) -> {
+      x.gravel(15, 4);
+      return x.worst(f);
+    }, 15);
+  }
+
   // ---- 43: ranked
 
   @Of(promise = 43, says = "FEET by how loud QUIETEST is, the least first, of several the first: the i-th. BAD.")
@@ -559,7 +574,7 @@ public final class WayEdges extends Edges {
     refuses("duel, what", 0, 1, what -> x.duel(0, what), BAD);
   }
 
-  @Of(promise = 44, says = "the CELL (of all) which, if it had GRAVEL 9, makes QUIETEST of FEET loudest, of several the first")
+  @Of(promise = 44, says = "DUEL: the CELL (of all) which, if it had GRAVEL 9, makes QUIETEST of FEET loudest, of several the first; how loud that is.")
   static void p44_ties() {
     duel(foot("33 33"), 0, 6);
     duel(foot("39 33"), 0, 12);
